@@ -199,6 +199,8 @@ public final class PromisesTest {
         due("bits(0)", x.bits(0), 127);
         due("bits(1): 1 and 4", x.bits(1), 18);
         due("bits(2)", x.bits(2), 64);
+        due("heap(EACH, 4, 2)", x.heap(EACH, 4, 2), 3);
+        due("bits(3): 4 and 6, none ahead", x.bits(3), 80);
         for (int a : new int[] {-1, 7, LOW, HIGH}) {
             refused(x, "heap(EACH, " + a + ", 1)", o -> o.heap(EACH, a, 1), BAD);
         }
@@ -269,6 +271,9 @@ public final class PromisesTest {
         x.swap(1, 3);
         due("bits(0) follows the second order", x.bits(0), 9);
         due("bits(1) does not", x.bits(1), 3);
+        x.swap(3, 4);
+        x.swap(0, 4);
+        due("bits(0) of 1 3 2 4 0 in a second order turned round", x.bits(0), 10);
         due("trace() is has()'s alone", x.trace(), 0);
         for (int heap : new int[] {-1, 2, 10, LOW, HIGH}) {
             refused(x, "bits(" + heap + ")", o -> o.bits(heap), BAD);
