@@ -4,7 +4,7 @@ import java.util.function.Supplier;
 import java.util.function.ToIntFunction;
 
 /**
- * Every call that is refused, in states from empty to full: what it answers, and that all later calls
+ * Each kind of refused call, in states from empty to full: what it answers, and that all later calls
  * answer as they do on a twin of the object that was never asked.
  */
 public final class RefusedTest {
